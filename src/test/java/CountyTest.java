@@ -53,6 +53,8 @@ public final class CountyTest {
         Due.due("ship FULL", x.ship(0, 0, 1, 1), Due.FULL);
         Due.due("ship BAD ahead of FULL", x.ship(0, 0, 0, 1), Due.BAD);
         Due.due("ships", x.count(3), 30);
+        Due.due("30 are looked at", x.step(1), 1);
+        Due.due("none of week 0 came through", x.count(9), 0);
     }
 
     private static void mills() {
@@ -92,6 +94,8 @@ public final class CountyTest {
             Due.due("told", x.told(1, 4 + sort), 10 + sort);
             Due.due("told of the other", x.told(0, 4 + sort), 0);
         }
+        Due.due("stock of none", x.stock(1, 0, 0), 10);
+        Due.due("stock of none", x.stock(1, 0, 10), 0);
         Due.due("port, too", x.stuff(3, 2, 100), 0);
         Due.due("all bales", x.count(9), 146);
     }

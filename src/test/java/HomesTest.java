@@ -54,6 +54,23 @@ public final class HomesTest {
         Due.dueAll("home FULL", Due.FULL, x.home(7, 0), x.home(5, 0), x.home(7, 9));
         Due.due("home BAD ahead of FULL", x.home(8, 0), Due.BAD);
         Due.due("twelve", x.count(2), 12);
+        takesNineItems();
+    }
+
+    private static void takesNineItems() {
+        CottonWeeks x = new CottonWeeks();
+        int[] items = new int[80];
+        items[1] = 1;
+        items[9] = 1000;
+        items[70] = -1;
+        items[72] = 12;
+        items[79] = 999;
+        Due.lay(x, 0, items);
+        Due.due("the tenth is another thing", x.home(0, 0), 0);
+        Due.due("the last nine", x.home(0, 71), 1);
+        Due.due("heads", x.house(1, 1), 12);
+        Due.due("the last good", x.house(1, 8), 999);
+        Due.due("beyond", x.home(0, 72), Due.PLACE);
     }
 
     private static void tellsHouses() {
@@ -216,6 +233,28 @@ public final class HomesTest {
         // The same from a place in the midst of a SHEET.
         Due.lay(x, 0, 99, 99, 5, 0, 0, 10, 0, 0, 99);
         Due.due("from 2 on", x.paid(0, 2, 2, 0), 5);
+        // A penny that is owed is paid on.
+        Due.lay(x, 0, 1, 0, 0, 0, 1, 0, 0, 0, 1, 0, 0, 0);
+        duePaid(x, 3, 1, 1, 0, 0);
+        paysByEight();
+    }
+
+    /** 0 has a penny, and each owes 2 to the next, of the last 72 ITEMS of a full SHEET. */
+    private static void paysByEight() {
+        CottonWeeks x = new CottonWeeks();
+        int[] items = new int[80];
+        items[7] = -1;
+        items[8] = 1;
+        for (int one = 0; one < 7; one++) {
+            items[16 + one * 8 + one + 1] = 2;
+        }
+        Due.lay(x, 0, items);
+        int[] got = new int[9];
+        for (int k = 0; k < 9; k++) {
+            got[k] = x.paid(0, 8, 8, k);
+        }
+        Due.dueRow("by eight", got, 1, 1, 1, 1, 1, 1, 1, 0, 7);
+        Due.due("beyond", x.paid(0, 9, 8, 0), Due.PLACE);
     }
 
     private static void paysInRounds() {

@@ -74,6 +74,15 @@ public final class ListsTest {
         Due.fault(x, "from 1 1;", 7, 1);
         Due.fault(x, "from 1 from 2 bread 1;", 7, 1);
         Due.fault(x, "from 1 brea 1;", 7, 1);
+        Due.fault(x, "krom 1 bread 1;", 0, 1);
+        Due.fault(x, "from 1 tread 1;", 7, 1);
+        Due.fault(x, "from 1 breadz 1;", 7, 1);
+        Due.fault(x, "from 1 abread 1;", 7, 1);
+        Due.fault(x, " ".repeat(399) + "z", 399, 1);
+        Due.fault(x, " ".repeat(394) + "from 9", 400, 1);
+        Due.fault(x, " ".repeat(396) + "from", 400, 1);
+        Due.fault(x, "z".repeat(400), 0, 1);
+        Due.fault(x, "9".repeat(400), 0, 1);
         Due.fault(x, "from 1 bread bread 1;", 13, 1);
         Due.fault(x, "from 1 bread 1 1;", 15, 1);
         Due.fault(x, "from 1 bread 1 from 2 bread 1;", 15, 1);
@@ -103,7 +112,10 @@ public final class ListsTest {
         Due.fault(x, "from 100 bread 1;", 5, 2);
         Due.fault(x, "from 9999 bread 1;", 5, 2);
         Due.fault(x, "from 1 piece 4 1;", 13, 2);
-        Due.fault(x, "from 1 piece 3 100;", 15, 2);
+        for (int sort = 0; sort < 4; sort++) {
+            Due.fault(x, "from 1 piece " + sort + " 100;", 15, 2);
+            Due.due("most", Due.read(new CottonWeeks(), "from 1 piece " + sort + " 99;"), 1);
+        }
         Due.fault(x, "from 1 relief 100;", 14, 2);
         Due.fault(x, "from 1 bread 100;", 13, 2);
         Due.fault(x, "from 1 first 4;", 13, 2);
@@ -141,6 +153,9 @@ public final class ListsTest {
         Due.fault(x, "from 1 bread 9 relief 9 limit;", 29, 1);
         Due.due("none came", x.holds(1, 6), 2);
         Due.due("none came", x.holds(1, 4), 3);
+        Due.fault(x, "from 0 first 1 first 2 oops", 23, 1);
+        Due.due("none came", x.first(99, 0), Due.NONE);
+        Due.due("none came", x.holds(99, 7), 0);
     }
 
     private static void latestHolds() {

@@ -38,6 +38,8 @@ public final class ThingsTest {
         Due.due("thing FULL", x.thing(0, 0, Due.NONE), Due.FULL);
         Due.due("thing BAD ahead of FULL", x.thing(0, 0, 0), Due.BAD);
         Due.due("sixteen", x.count(5), 16);
+        Due.due("yarns of them, and a cloth", x.count(6), 12);
+        Due.due("the last", x.ask(15, 0), 15 + 100 + 999);
     }
 
     /** THING k is of SORT k; their numbers are 11, 22, 33, 44, 55, 67. */
@@ -193,6 +195,7 @@ public final class ThingsTest {
         dueWorks(x, 4, 28, 5, 19, 10);
         dueWorks(x, 4, 29, 7, 29, 15);
         dueWorks(x, 4, 500, 7, 29, 15);
+        dueWorks(x, 4, 0, 0, 0, 0);
         // The one with most for its pence is not in the best set.
         Due.lay(x, 0, 60, 66, 50, 50, 50, 50);
         dueWorks(x, 3, 100, 6, 100, 100);
