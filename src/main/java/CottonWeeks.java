@@ -50,13 +50,8 @@ public final class CottonWeeks {
             return BAD;
         }
         Sheet s = sheets[sheet];
-        if (s.missing) {
-            return found(NULL_FOUND);
-        }
-        if (!s.reaches(i, 1)) {
-            return found(PLACE_FOUND);
-        }
-        return unfound(s.put(i, v));
+        int finds = s.findingAt(i, 1);
+        return finds != 0 ? found(finds) : unfound(s.put(i, v));
     }
 
     public int copy(int a, int i, int b, int j, int n) {
@@ -218,11 +213,9 @@ public final class CottonWeeks {
             return FULL;
         }
         Sheet s = sheets[sheet];
-        if (s.missing) {
-            return found(NULL_FOUND);
-        }
-        if (!s.reaches(i, HOME_ITEMS)) {
-            return found(PLACE_FOUND);
+        int finds = s.findingAt(i, HOME_ITEMS);
+        if (finds != 0) {
+            return found(finds);
         }
         if (!homeItemsFit(s.items, i)) {
             return BAD;
@@ -244,11 +237,9 @@ public final class CottonWeeks {
             return BAD;
         }
         Sheet s = sheets[sheet];
-        if (s.missing) {
-            return found(NULL_FOUND);
-        }
-        if (!s.reaches(i, n + n * n)) {
-            return found(PLACE_FOUND);
+        int finds = s.findingAt(i, n + n * n);
+        if (finds != 0) {
+            return found(finds);
         }
         if (!debts.take(s.items, i, n)) {
             return BAD;
@@ -271,11 +262,9 @@ public final class CottonWeeks {
             return BAD;
         }
         Sheet s = sheets[sheet];
-        if (s.missing) {
-            return found(NULL_FOUND);
-        }
-        if (!s.reaches(i, 2 * n)) {
-            return found(PLACE_FOUND);
+        int finds = s.findingAt(i, 2 * n);
+        if (finds != 0) {
+            return found(finds);
         }
         if (!best.take(s.items, i, n)) {
             return BAD;
@@ -466,6 +455,14 @@ public final class CottonWeeks {
 
         boolean reaches(int i, int n) {
             return i >= 0 && n >= 0 && (long) i + n <= size;
+        }
+
+        /** What a call with n ITEMS from i on finds first; 0: nothing. */
+        int findingAt(int i, int n) {
+            if (missing) {
+                return NULL_FOUND;
+            }
+            return reaches(i, n) ? 0 : PLACE_FOUND;
         }
 
         int put(int i, int v) {

@@ -101,7 +101,7 @@ public final class SheetsTest {
         dueItems(x, 0, 2, 3, 4, 5, 4, 5);
     }
 
-    /** Each ITEM from 1 to 100 is seen as the cost of WORKS with a LOAN that is ample; its neighbour stands as the gain. */
+    /** Each ITEM from 1 to 100 is seen as the cost of WORKS with an ample LOAN; its neighbour stands as the gain. */
     private static void dueItems(CottonWeeks x, int sheet, int... items) {
         for (int i = 0; i + 1 < items.length; i++) {
             Due.due("item " + i, x.works(sheet, i, 1, 500, 1), items[i]);

@@ -229,7 +229,8 @@ public final class ThingsTest {
         Due.due("news", x.news(0, 39, 3, 0), 2);
         Due.due("news", x.news(0, 41, 3, 0), 3);
         Due.due("news", x.news(4, 40, 2, 1), 4);
-        Due.dueRow("town 3", new int[] {x.known(3, 38), x.known(3, 39), x.known(3, 40), x.known(3, 99)}, 0, 1, 513, 513);
+        Due.dueRow("town 3", new int[] {x.known(3, 38), x.known(3, 39), x.known(3, 40), x.known(3, 99)},
+                0, 1, 513, 513);
         Due.dueRow("town 2", new int[] {x.known(2, 40), x.known(2, 41)}, 0, 16);
         Due.dueRow("others", new int[] {x.known(0, 99), x.known(1, 99)}, 0, 0);
     }
