@@ -12,7 +12,6 @@ public final class CountyTest {
         ownBalesFirst();
         standsAndSells();
         sellsToTheNext();
-        sellsAtTheDearest();
         runsOfWeeks();
         Due.end();
     }
@@ -274,28 +273,6 @@ public final class CountyTest {
         y.step(2);
         Due.due("the one ahead must wait", y.ran(0, 0), Due.NONE);
         Due.due("a week", y.ran(0, 1), 0);
-    }
-
-    /** The dearest sales there can be stay below what COIN may come to: a SORT brings 1300000 a WEEK at most. */
-    private static void sellsAtTheDearest() {
-        CottonWeeks x = new CottonWeeks();
-        x.mill(50, 15, 1000, 1);
-        for (int m = 1; m < 6; m++) {
-            x.mill(50, 15, 1000, 0);
-        }
-        x.stuff(0, 3, 0);
-        x.stuff(0, 4, 100);
-        for (int sort = 0; sort < 4; sort++) {
-            x.stuff(sort, 0, 1000);
-        }
-        for (int week = 0; week < 40; week++) {
-            for (int sort = 0; sort < 4; sort++) {
-                x.stuff(sort, 2, 0);
-                x.stock(0, sort, 9999);
-            }
-            x.step(1);
-        }
-        Due.due("coin", x.told(0, 8), 40 * 4 * 9999 * (1000 * 1300 / 10000));
     }
 
     private static void runsOfWeeks() {

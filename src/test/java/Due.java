@@ -1,3 +1,5 @@
+import java.util.function.IntUnaryOperator;
+
 /** What the project's tests share: each answer against the one that is due. */
 final class Due {
     static final int NONE = CottonWeeks.NONE, BAD = CottonWeeks.BAD, FULL = CottonWeeks.FULL;
@@ -7,6 +9,7 @@ final class Due {
 
     private static int wrong;
     private static int asked;
+    private static String sentence = "";
 
     private Due() {
     }
@@ -16,8 +19,23 @@ final class Due {
         if (got != want) {
             wrong++;
             if (wrong <= MOST_SHOWN) {
-                System.out.println(call + " answered " + got + ", due is " + want);
+                System.out.println(sentence + call + " answered " + got + ", due is " + want);
             }
+        }
+    }
+
+    /** The document's sentence that the answers from here on are about. */
+    static void sentence(String words) {
+        sentence = "'" + words + "': ";
+    }
+
+    /** A number that a call takes from least to most: what it answers to these two, and BAD on either side of them. */
+    static void range(String call, int least, int atLeast, int most, int atMost, IntUnaryOperator answers) {
+        due(call + " of " + least, answers.applyAsInt(least), atLeast);
+        due(call + " of " + most, answers.applyAsInt(most), atMost);
+        int[] outside = {least - 1, most + 1, Integer.MIN_VALUE, Integer.MAX_VALUE};
+        for (int v : outside) {
+            due(call + " of " + v, answers.applyAsInt(v), BAD);
         }
     }
 
@@ -48,6 +66,31 @@ final class Due {
         for (int k = 0; k < items.length; k++) {
             due("set", x.set(sheet, k, items[k]), items[k]);
         }
+    }
+
+    /** Tells a HOME of these ITEMS by way of SHEET 7. */
+    static int addHome(CottonWeeks x, int... items) {
+        lay(x, 7, items);
+        return x.home(7, 0);
+    }
+
+    /** All that house() tells of a HOME. */
+    static int[] house(CottonWeeks x, int home) {
+        int[] tells = new int[11];
+        for (int what = 0; what <= 10; what++) {
+            tells[what] = x.house(home, what);
+        }
+        return tells;
+    }
+
+    /** THING k is of SORT k; their numbers are 11, 22, 33, 44, 55, 67. */
+    static void addOneOfEach(CottonWeeks x) {
+        x.thing(0, 11, NONE);
+        x.thing(1, 22, NONE);
+        x.thing(2, 33, 1);
+        x.thing(3, 44, 2);
+        x.thing(4, 55, NONE);
+        x.thing(5, 67, NONE);
     }
 
     /** Puts a text on the tape, eight bytes a call. */

@@ -14,19 +14,6 @@ public final class HomesTest {
         Due.end();
     }
 
-    private static int[] house(CottonWeeks x, int home) {
-        int[] tells = new int[11];
-        for (int what = 0; what <= 10; what++) {
-            tells[what] = x.house(home, what);
-        }
-        return tells;
-    }
-
-    private static int addHome(CottonWeeks x, int... items) {
-        Due.lay(x, 7, items);
-        return x.home(7, 0);
-    }
-
     private static void refusesHomes() {
         CottonWeeks x = new CottonWeeks();
         Due.dueAll("home BAD", Due.BAD, x.home(-1, 0), x.home(8, 0));
@@ -38,15 +25,15 @@ public final class HomesTest {
         for (int k = 0; k < 9; k++) {
             int[] low = least.clone();
             low[k]--;
-            Due.due("item " + k + " too low", addHome(x, low), Due.BAD);
+            Due.due("item " + k + " too low", Due.addHome(x, low), Due.BAD);
             int[] high = most.clone();
             high[k]++;
-            Due.due("item " + k + " too high", addHome(x, high), Due.BAD);
+            Due.due("item " + k + " too high", Due.addHome(x, high), Due.BAD);
         }
-        Due.due("more hands than heads", addHome(x, 0, 3, 4, 0, 0, 0, 0, 0, 0), Due.BAD);
+        Due.due("more hands than heads", Due.addHome(x, 0, 3, 4, 0, 0, 0, 0, 0, 0), Due.BAD);
         Due.due("none", x.count(2), 0);
-        Due.due("least", addHome(x, least), 0);
-        Due.due("most", addHome(x, most), 1);
+        Due.due("least", Due.addHome(x, least), 0);
+        Due.due("most", Due.addHome(x, most), 1);
         Due.due("from 1 on", x.home(0, 1), 2);
         for (int h = 3; h < 12; h++) {
             Due.due("home", x.home(7, 0), h);
@@ -76,10 +63,10 @@ public final class HomesTest {
     private static void tellsHouses() {
         CottonWeeks x = new CottonWeeks();
         Due.due("house of none", x.house(0, 0), Due.BAD);
-        addHome(x, 1, 2, 0, 4, 5, 6, 7, 8, 9);
-        addHome(x, 5, 12, 11, 10, 9, 8, 7, 6, 5);
-        Due.dueRow("house 0", house(x, 0), 1, 2, 0, 4, 5, 6, 7, 8, 9, 0, 0);
-        Due.dueRow("house 1", house(x, 1), 5, 12, 11, 10, 9, 8, 7, 6, 5, 0, 0);
+        Due.addHome(x, 1, 2, 0, 4, 5, 6, 7, 8, 9);
+        Due.addHome(x, 5, 12, 11, 10, 9, 8, 7, 6, 5);
+        Due.dueRow("house 0", Due.house(x, 0), 1, 2, 0, 4, 5, 6, 7, 8, 9, 0, 0);
+        Due.dueRow("house 1", Due.house(x, 1), 5, 12, 11, 10, 9, 8, 7, 6, 5, 0, 0);
         Due.dueAll("house BAD", Due.BAD, x.house(-1, 0), x.house(2, 0), x.house(0, -1), x.house(0, 11));
         x.set(7, 3, 0);
         Due.due("the sheet is another thing", x.house(1, 3), 10);
@@ -90,7 +77,7 @@ public final class HomesTest {
         Due.read(x, "from 0 piece 0 4 piece 2 5 bread 10 relief 50 limit 9999;from 1 bread 11 piece 2 6;");
         x.mill(10, 4, 0, 0);
         x.stock(0, 2, 200);
-        addHome(x, 0, 4, 3, 100, 7, 0, 0, 0, 0);
+        Due.addHome(x, 0, 4, 3, 100, 7, 0, 0, 0, 0);
         x.step(1);
         Due.due("earned on sort 2", x.house(0, 3), 100 + 3 * 42 * 5 - 40 - 7);
         Due.due("no relief", x.house(0, 10), 0);
@@ -105,21 +92,21 @@ public final class HomesTest {
         CottonWeeks x = new CottonWeeks();
         Due.read(x, "from 0 relief 9 limit 100 bread 10 first 3 first 1;");
         // Bread and rent take 35: what is left with GOODS 1 and 3 is 100, or 101.
-        addHome(x, 5, 3, 3, 85, 5, 900, 20, 900, 30);
-        addHome(x, 5, 3, 3, 86, 5, 900, 20, 900, 30);
-        addHome(x, 5, 3, 3, 0, 5, 900, 20, 900, 115);
-        addHome(x, 5, 3, 3, 0, 5, 900, 20, 900, 116);
+        Due.addHome(x, 5, 3, 3, 85, 5, 900, 20, 900, 30);
+        Due.addHome(x, 5, 3, 3, 86, 5, 900, 20, 900, 30);
+        Due.addHome(x, 5, 3, 3, 0, 5, 900, 20, 900, 115);
+        Due.addHome(x, 5, 3, 3, 0, 5, 900, 20, 900, 116);
         x.step(1);
-        Due.dueRow("limit", house(x, 0), 5, 3, 3, 77, 5, 900, 20, 900, 30, 0, 27);
-        Due.dueRow("above limit", house(x, 1), 5, 3, 3, 51, 5, 900, 20, 900, 30, 0, 0);
-        Due.dueRow("limit, in debt", house(x, 2), 5, 3, 3, 107, 5, 900, 20, 900, 0, 0, 27);
-        Due.dueRow("above limit, in debt", house(x, 3), 5, 3, 3, 81, 5, 900, 20, 900, 0, 0, 0);
+        Due.dueRow("limit", Due.house(x, 0), 5, 3, 3, 77, 5, 900, 20, 900, 30, 0, 27);
+        Due.dueRow("above limit", Due.house(x, 1), 5, 3, 3, 51, 5, 900, 20, 900, 30, 0, 0);
+        Due.dueRow("limit, in debt", Due.house(x, 2), 5, 3, 3, 107, 5, 900, 20, 900, 0, 0, 27);
+        Due.dueRow("above limit, in debt", Due.house(x, 3), 5, 3, 3, 81, 5, 900, 20, 900, 0, 0, 0);
         x.step(1);
         Due.due("relief adds up", x.house(0, 10), 54);
         CottonWeeks y = new CottonWeeks();
         Due.read(y, "from 0 relief 9 first 0;");
-        addHome(y, 0, 1, 0, 0, 0, 0, 5, 5, 5);
-        addHome(y, 0, 1, 0, 1, 0, 0, 5, 5, 5);
+        Due.addHome(y, 0, 1, 0, 0, 0, 0, 5, 5, 5);
+        Due.addHome(y, 0, 1, 0, 1, 0, 0, 5, 5, 5);
         y.step(1);
         Due.due("without a limit: 0", y.house(0, 3), 9);
         Due.due("without a limit: 0", y.house(1, 3), 1);
@@ -128,34 +115,34 @@ public final class HomesTest {
     private static void sellsGoods() {
         CottonWeeks x = new CottonWeeks();
         Due.read(x, "from 0 bread 10 first 2 first 1;");
-        addHome(x, 5, 5, 0, 0, 0, 100, 20, 30, 100);
-        addHome(x, 5, 5, 0, 0, 0, 100, 20, 29, 100);
-        addHome(x, 5, 5, 0, 0, 0, 0, 20, 20, 100);
-        addHome(x, 5, 5, 0, 20, 0, 7, 7, 30, 7);
-        addHome(x, 5, 5, 0, 50, 0, 7, 7, 30, 7);
+        Due.addHome(x, 5, 5, 0, 0, 0, 100, 20, 30, 100);
+        Due.addHome(x, 5, 5, 0, 0, 0, 100, 20, 29, 100);
+        Due.addHome(x, 5, 5, 0, 0, 0, 0, 20, 20, 100);
+        Due.addHome(x, 5, 5, 0, 20, 0, 7, 7, 30, 7);
+        Due.addHome(x, 5, 5, 0, 50, 0, 7, 7, 30, 7);
         x.step(1);
-        Due.dueRow("the first two are enough", house(x, 0), 5, 5, 0, 0, 0, 100, 0, 0, 100, 0, 0);
-        Due.dueRow("then by numbers", house(x, 1), 5, 5, 0, 99, 0, 0, 0, 0, 100, 0, 0);
-        Due.dueRow("one is gone", house(x, 2), 5, 5, 0, 90, 0, 0, 0, 0, 0, 0, 0);
-        Due.dueRow("one is enough", house(x, 3), 5, 5, 0, 0, 0, 7, 7, 0, 7, 0, 0);
-        Due.dueRow("none needs to go", house(x, 4), 5, 5, 0, 0, 0, 7, 7, 30, 7, 0, 0);
+        Due.dueRow("the first two are enough", Due.house(x, 0), 5, 5, 0, 0, 0, 100, 0, 0, 100, 0, 0);
+        Due.dueRow("then by numbers", Due.house(x, 1), 5, 5, 0, 99, 0, 0, 0, 0, 100, 0, 0);
+        Due.dueRow("one is gone", Due.house(x, 2), 5, 5, 0, 90, 0, 0, 0, 0, 0, 0, 0);
+        Due.dueRow("one is enough", Due.house(x, 3), 5, 5, 0, 0, 0, 7, 7, 0, 7, 0, 0);
+        Due.dueRow("none needs to go", Due.house(x, 4), 5, 5, 0, 0, 0, 7, 7, 30, 7, 0, 0);
         CottonWeeks y = new CottonWeeks();
         Due.read(y, "from 1 first 3;");
-        addHome(y, 5, 1, 0, 0, 50, 50, 50, 50, 50);
+        Due.addHome(y, 5, 1, 0, 0, 50, 50, 50, 50, 50);
         y.step(1);
-        Due.dueRow("not yet first", house(y, 0), 5, 1, 0, 0, 50, 0, 50, 50, 50, 0, 0);
+        Due.dueRow("not yet first", Due.house(y, 0), 5, 1, 0, 0, 50, 0, 50, 50, 50, 0, 0);
         y.step(1);
-        Due.dueRow("first", house(y, 0), 5, 1, 0, 0, 50, 0, 50, 50, 0, 0, 0);
+        Due.dueRow("first", Due.house(y, 0), 5, 1, 0, 0, 50, 0, 50, 50, 0, 0, 0);
     }
 
     private static void hungers() {
         CottonWeeks x = new CottonWeeks();
-        addHome(x, 5, 1, 0, 10, 50, 10, 10, 10, 9);
-        addHome(x, 5, 1, 0, 10, 50, 10, 10, 10, 10);
-        addHome(x, 5, 1, 0, 10, 0, 0, 0, 0, 0);
+        Due.addHome(x, 5, 1, 0, 10, 50, 10, 10, 10, 9);
+        Due.addHome(x, 5, 1, 0, 10, 50, 10, 10, 10, 10);
+        Due.addHome(x, 5, 1, 0, 10, 0, 0, 0, 0, 0);
         x.step(1);
-        Due.dueRow("hungers", house(x, 0), 5, 1, 0, 0, 50, 0, 0, 0, 0, 1, 0);
-        Due.dueRow("does not", house(x, 1), 5, 1, 0, 0, 50, 0, 0, 0, 0, 0, 0);
+        Due.dueRow("hungers", Due.house(x, 0), 5, 1, 0, 0, 50, 0, 0, 0, 0, 1, 0);
+        Due.dueRow("does not", Due.house(x, 1), 5, 1, 0, 0, 50, 0, 0, 0, 0, 0, 0);
         x.step(3);
         Due.due("four times", x.house(0, 9), 4);
         Due.due("three times", x.house(1, 9), 3);
@@ -166,8 +153,8 @@ public final class HomesTest {
     private static void changesWithTheMill() {
         CottonWeeks x = new CottonWeeks();
         Due.read(x, "from 0 piece 0 1 relief 1 limit 9999;");
-        addHome(x, 0, 2, 2, 0, 0, 0, 0, 0, 0);
-        addHome(x, 1, 2, 2, 0, 0, 0, 0, 0, 0);
+        Due.addHome(x, 0, 2, 2, 0, 0, 0, 0, 0, 0);
+        Due.addHome(x, 1, 2, 2, 0, 0, 0, 0, 0, 0);
         x.step(1);
         Due.due("not there", x.house(0, 3), 2);
         x.mill(1, 1, 0, 0);

@@ -78,11 +78,6 @@ public final class ListsTest {
         Due.fault(x, "from 1 tread 1;", 7, 1);
         Due.fault(x, "from 1 breadz 1;", 7, 1);
         Due.fault(x, "from 1 abread 1;", 7, 1);
-        Due.fault(x, " ".repeat(399) + "z", 399, 1);
-        Due.fault(x, " ".repeat(394) + "from 9", 400, 1);
-        Due.fault(x, " ".repeat(396) + "from", 400, 1);
-        Due.fault(x, "z".repeat(400), 0, 1);
-        Due.fault(x, "9".repeat(400), 0, 1);
         Due.fault(x, "from 1 bread bread 1;", 13, 1);
         Due.fault(x, "from 1 bread 1 1;", 15, 1);
         Due.fault(x, "from 1 bread 1 from 2 bread 1;", 15, 1);
@@ -105,6 +100,16 @@ public final class ListsTest {
         Due.fault(x, "from 1 limit 4294967297;", 13, 1);
         Due.fault(x, "12345", 0, 1);
         Due.due("no rule came", x.count(4), 0);
+        faultsOfFullTapes();
+    }
+
+    private static void faultsOfFullTapes() {
+        CottonWeeks x = new CottonWeeks();
+        Due.fault(x, " ".repeat(399) + "z", 399, 1);
+        Due.fault(x, " ".repeat(394) + "from 9", 400, 1);
+        Due.fault(x, " ".repeat(396) + "from", 400, 1);
+        Due.fault(x, "z".repeat(400), 0, 1);
+        Due.fault(x, "9".repeat(400), 0, 1);
     }
 
     private static void faultsOfNumbers() {

@@ -42,15 +42,9 @@ public final class ThingsTest {
         Due.due("the last", x.ask(15, 0), 15 + 100 + 999);
     }
 
-    /** THING k is of SORT k; their numbers are 11, 22, 33, 44, 55, 67. */
     private static CottonWeeks oneOfEach() {
         CottonWeeks x = new CottonWeeks();
-        x.thing(0, 11, Due.NONE);
-        x.thing(1, 22, Due.NONE);
-        x.thing(2, 33, 1);
-        x.thing(3, 44, 2);
-        x.thing(4, 55, Due.NONE);
-        x.thing(5, 67, Due.NONE);
+        Due.addOneOfEach(x);
         return x;
     }
 
