@@ -265,6 +265,10 @@ public final class ListEdgesTest {
         faulty("from 1 piece 1 2 3;", 17, 1);
         faulty("from 1 piece 1;", 14, 1);
         faulty("from 1 bread;", 12, 1);
+        faulty("from one bread 1;", 5, 1);
+        faulty("from 1 bread one;", 13, 1);
+        faulty("from 1 piece one 1;", 13, 1);
+        faulty("from 1 2 3;", 7, 1);
         faulty("from 1 bread 1 from 2 bread 1;", 15, 1);
     }
 
