@@ -24,8 +24,8 @@ public final class TwiceToldTest {
         {"works", 2, 0, 7, 0, 20, 1, 10, 0, 500, 0, 2}, {"news", 4, 0, 9, 0, 99, 0, 3, 0, 30},
         {"known", 6, 0, 3, 0, 99}, {"kind", 2, 0, THINGS}, {"as", 6, 0, THINGS, 0, 5}, {"ask", 6, 0, THINGS, 0, 1},
         {"trace", 6, 0, 6}, {"count", 4, 0, 9}, {"status", 4}};
-    private static final int[] EDGES = {-1, 0, 1, 2, 3, 4, 5, 6, 7, 8, 9, 10, 11, 12, 15, 16, 20, 21, 30, 31, 50, 51, 79,
-        80, 81, 99, 100, 101, 500, 501, 999, 1000, 1001, 5000, 5001, 9999, 10000, 70000, CottonWeeks.NONE,
+    private static final int[] EDGES = {-1, 0, 1, 2, 3, 4, 5, 6, 7, 8, 9, 10, 11, 12, 15, 16, 20, 21, 30, 31, 50, 51,
+        79, 80, 81, 99, 100, 101, 500, 501, 999, 1000, 1001, 5000, 5001, 9999, 10000, 70000, CottonWeeks.NONE,
         Integer.MAX_VALUE, Integer.MIN_VALUE};
 
     private static final Map<String, Method> OF_CLASS = new HashMap<>();
